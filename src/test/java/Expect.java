@@ -1,19 +1,44 @@
 /** Counts what is not as due; every test ends with end(). */
 final class Expect {
-    interface Call {
-        long answer();
+    interface Answer {
+        Object get();
     }
 
+    private static int sentences = 0;
     private static int checks = 0;
     private static int wrong = 0;
+    private static String heading = "";
 
     private Expect() {
+    }
+
+    /** The test of one sentence; where tells the promise, or the part of the document. */
+    static void sentence(String where, String words, Runnable test) {
+        heading = where + ", \"" + words + "\": ";
+        int before = checks;
+        sentences++;
+        try {
+            test.run();
+        } catch (RuntimeException e) {
+            report("threw " + e);
+        }
+        if (checks == before) {
+            report("has no check");
+        }
+        heading = "";
     }
 
     static void same(String what, long due, long got) {
         checks++;
         if (got != due) {
             report(what + " answered " + got + ", due is " + due);
+        }
+    }
+
+    static void sameText(String what, String due, String got) {
+        checks++;
+        if (!got.equals(due)) {
+            report(what + " was " + got + ", due is " + due);
         }
     }
 
@@ -25,35 +50,33 @@ final class Expect {
         same(what, 0, got ? 1 : 0);
     }
 
-    static void noPlace(String what, Call call) {
-        fails(what, IndexOutOfBoundsException.class, call);
+    static void noPlace(String what, Answer call) {
+        sameText(what, "throws.IndexOutOfBoundsException", told(call));
     }
 
-    static void full(String what, Call call) {
-        fails(what, IllegalStateException.class, call);
+    static void full(String what, Answer call) {
+        sameText(what, "throws.IllegalStateException", told(call));
     }
 
-    // The very class is due: one of its subclasses would come from the machine, not from the program.
-    private static void fails(String what, Class<?> due, Call call) {
-        checks++;
+    // The class's very name: a subclass of it would come from the machine, not from the program.
+    static String told(Answer call) {
         try {
-            report(what + " answered " + call.answer() + ", due is " + due.getName());
+            return String.valueOf(call.get());
         } catch (RuntimeException e) {
-            if (e.getClass() != due) {
-                report(what + " threw " + e + ", due is " + due.getName());
-            }
+            return "throws." + e.getClass().getSimpleName();
         }
     }
 
-    private static void report(String text) {
+    static void report(String text) {
         wrong++;
         if (wrong <= 50) {
-            System.out.println(text);
+            System.out.println(heading + text);
         }
     }
 
     static void end() {
-        System.out.println(checks + " checks, " + wrong + " wrong");
+        String tested = sentences == 0 ? "" : sentences + " sentences, ";
+        System.out.println(tested + checks + " checks, " + wrong + " wrong");
         if (wrong != 0) {
             System.exit(1);
         }

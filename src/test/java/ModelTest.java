@@ -4,6 +4,10 @@ public final class ModelTest {
     private static final int THROWS_PLACE = -1000;
     private static final int THROWS_FULL = -2000;
 
+    private interface Call {
+        long answer();
+    }
+
     // An own source of numbers, so that every run of the test is the same.
     private long seed;
     private final RelationOrder program = new RelationOrder();
@@ -156,7 +160,7 @@ public final class ModelTest {
         }
     }
 
-    private long both(String what, Expect.Call got, Expect.Call due) {
+    private long both(String what, Call got, Call due) {
         if (calls >= CALLS) {
             return THROWS_FULL;
         }
@@ -166,7 +170,7 @@ public final class ModelTest {
         return answer;
     }
 
-    private static long answer(Expect.Call call) {
+    private static long answer(Call call) {
         try {
             return call.answer();
         } catch (IndexOutOfBoundsException e) {

@@ -1,11 +1,11 @@
 /** Each promise of the document: ordinary inputs, the edges it names, wrong inputs. */
 public final class PromiseTest {
-    private static final int NONE = RelationOrder.NONE;
-    private static final int ABOVE = 0;
-    private static final int CUTS = 1;
-    private static final int FILLS = 2;
-    private static final int EQUAL = 3;
-    private static final int CONTEMPORARY = 4;
+    private static final int NONE = Dig.NONE;
+    private static final int ABOVE = Dig.ABOVE;
+    private static final int CUTS = Dig.CUTS;
+    private static final int FILLS = Dig.FILLS;
+    private static final int EQUAL = Dig.EQUAL;
+    private static final int CONTEMPORARY = Dig.CONTEMPORARY;
     private static final int[] FAR = {Integer.MIN_VALUE, -1, Integer.MAX_VALUE};
 
     private PromiseTest() {
@@ -37,56 +37,8 @@ public final class PromiseTest {
         Expect.end();
     }
 
-    private static RelationOrder dig(int contexts) {
-        RelationOrder x = new RelationOrder();
-        for (int i = 0; i < contexts; i++) {
-            Expect.same("context()", i, x.context());
-        }
-        return x;
-    }
-
-    private static void above(RelationOrder x, int... pairs) {
-        for (int i = 0; i < pairs.length; i += 2) {
-            Expect.yes("relate(" + pairs[i] + ", " + pairs[i + 1] + ", 0) has a number",
-                    x.relate(pairs[i], pairs[i + 1], ABOVE) >= 0);
-        }
-    }
-
-    private static void ringIs(String what, RelationOrder x, int... due) {
-        for (int k = 0; k < due.length; k++) {
-            Expect.same(what + ": ring(" + k + ")", due[k], x.ring(k));
-        }
-        Expect.same(what + ": ring ends", NONE, x.ring(due.length));
-    }
-
-    private static void groupRingIs(String what, RelationOrder x, int... due) {
-        for (int k = 0; k < due.length; k++) {
-            Expect.same(what + ": groupRing(" + k + ")", due[k], x.groupRing(k));
-        }
-        Expect.same(what + ": groupRing ends", NONE, x.groupRing(due.length));
-    }
-
-    private static void linksAre(String what, RelationOrder x, int... due) {
-        Expect.same(what + ": links()", due.length / 2, x.links());
-        for (int i = 0; i < due.length; i++) {
-            int k = i / 2;
-            int which = i % 2;
-            Expect.same(what + ": link(" + k + ", " + which + ")", due[i], x.link(k, which));
-        }
-        Expect.noPlace(what + ": link behind the end", () -> x.link(due.length / 2, 0));
-    }
-
-    private static void differencesAre(String what, RelationOrder x, int one, int other, int... due) {
-        for (int k = 0; k < due.length; k++) {
-            Expect.same(what + ": differs " + k, due[k], x.differs(one, other, k));
-            Expect.same(what + ": differs back " + k, due[k], x.differs(other, one, k));
-        }
-        Expect.same(what + ": differs ends", NONE, x.differs(one, other, due.length));
-        Expect.same(what + ": differs far", NONE, x.differs(other, one, Integer.MAX_VALUE));
-    }
-
     private static void promise1NewObject() {
-        RelationOrder x = new RelationOrder();
+        Dig x = new Dig();
         for (int what = 0; what <= 4; what++) {
             Expect.same("new: count(" + what + ")", 0, x.count(what));
         }
@@ -95,20 +47,20 @@ public final class PromiseTest {
         Expect.same("new: groupRing(0)", NONE, x.groupRing(0));
         Expect.noPlace("new: link", () -> x.link(0, 0));
         Expect.noPlace("new: equal", () -> x.equal(0));
-        Expect.noPlace("new: undo", () -> x.undo(0) ? 1 : 0);
+        Expect.noPlace("new: undo", () -> x.undo(0));
         Expect.noPlace("new: differs", () -> x.differs(0, 0, 0));
-        dig(3);
+        Dig.of(3);
         Expect.same("new: another object's contexts are not this one's", 0, x.count(0));
     }
 
     private static void promise2Context() {
-        RelationOrder x = dig(48);
+        Dig x = Dig.of(48);
         Expect.full("context 48", x::context);
         Expect.full("context 48 again", x::context);
         Expect.same("count of contexts", 48, x.count(0));
-        above(x, 47, 0);
+        x.above(47, 0);
         Expect.same("the last one orders", 1, x.order(47, 0));
-        RelationOrder late = dig(2);
+        Dig late = Dig.of(2);
         late.relate(0, 1, EQUAL);
         Expect.same("a later context", 2, late.context());
         Expect.same("a later context is its own", 2, late.equal(2));
@@ -117,7 +69,7 @@ public final class PromiseTest {
     }
 
     private static void promise3Relate() {
-        RelationOrder x = dig(8);
+        Dig x = Dig.of(8);
         Expect.same("above", 0, x.relate(0, 1, ABOVE));
         Expect.same("cuts", 1, x.relate(1, 2, CUTS));
         Expect.same("fills", 2, x.relate(2, 3, FILLS));
@@ -134,18 +86,18 @@ public final class PromiseTest {
         Expect.same("equal to itself", 7, x.relate(6, 6, EQUAL));
         Expect.same("equal again", 8, x.relate(5, 4, EQUAL));
         Expect.same("above of joined ones", NONE, x.relate(5, 4, ABOVE));
-        ringIs("joined with it", x, 4);
+        x.ringIs("joined with it", 4);
         Expect.same("relations that count", 9, x.count(1));
         Expect.same("a refused one orders nothing", 1, x.order(0, 3));
         Expect.same("a refused one joins nothing", 3, x.equal(3));
         Expect.same("ring by joined ones", 9, x.relate(3, 5, ABOVE));
         Expect.same("ring by joined ones, back", NONE, x.relate(4, 0, ABOVE));
-        ringIs("joined ones", x, 4, 0, 1, 2, 3);
+        x.ringIs("joined ones", 4, 0, 1, 2, 3);
     }
 
     private static void promise3RelateWrong() {
-        RelationOrder x = dig(4);
-        above(x, 0, 1);
+        Dig x = Dig.of(4);
+        x.above(0, 1);
         x.relate(1, 0, ABOVE);
         for (int far : new int[] {Integer.MIN_VALUE, -1, 4, 48, Integer.MAX_VALUE}) {
             Expect.noPlace("relate a " + far, () -> x.relate(far, 2, ABOVE));
@@ -155,13 +107,13 @@ public final class PromiseTest {
         for (int kind : new int[] {Integer.MIN_VALUE, -1, 5, Integer.MAX_VALUE}) {
             Expect.noPlace("relate kind " + kind, () -> x.relate(1, 0, kind));
         }
-        ringIs("a wrong call tells no ring", x, 1, 0);
+        x.ringIs("a wrong call tells no ring", 1, 0);
         Expect.same("a wrong call makes no relation", 1, x.count(1));
         Expect.same("nor takes a number", 1, x.relate(2, 3, ABOVE));
     }
 
     private static void promise3RelateLimit() {
-        RelationOrder x = dig(3);
+        Dig x = Dig.of(3);
         for (int i = 0; i < 199; i++) {
             Expect.same("relate", i, x.relate(0, 1, ABOVE));
         }
@@ -170,44 +122,44 @@ public final class PromiseTest {
         Expect.same("the last one", 199, x.relate(1, 2, CUTS));
         Expect.full("relation 200", () -> x.relate(0, 2, CONTEMPORARY));
         Expect.full("relation 200, though a ring", () -> x.relate(2, 0, ABOVE));
-        ringIs("a full object tells no ring", x, 1, 0);
+        x.ringIs("a full object tells no ring", 1, 0);
         Expect.noPlace("a wrong context though full", () -> x.relate(0, 3, ABOVE));
         Expect.same("relations that count", 199, x.count(1));
         Expect.yes("undo the last", x.undo(199));
         Expect.full("undone ones keep their number", () -> x.relate(1, 2, CUTS));
-        Expect.noPlace("no relation 200", () -> x.undo(200) ? 1 : 0);
+        Expect.noPlace("no relation 200", () -> x.undo(200));
         Expect.same("the order stands", 1, x.order(0, 1));
         Expect.same("the undone does not", 0, x.order(1, 2));
     }
 
     private static void promise4Ring() {
-        RelationOrder x = dig(10);
+        Dig x = Dig.of(10);
         // Three ways from 0 to 9: two of four steps, one of five that begins lower.
-        above(x, 0, 1, 1, 2, 2, 3, 3, 4, 4, 9, 0, 7, 7, 5, 5, 6, 6, 9, 7, 8, 8, 6);
+        x.above(0, 1, 1, 2, 2, 3, 3, 4, 4, 9, 0, 7, 7, 5, 5, 6, 6, 9, 7, 8, 8, 6);
         x.relate(9, 0, ABOVE);
-        ringIs("the shortest, then the lowest", x, 9, 0, 7, 5, 6);
-        above(x, 3, 9);
+        x.ringIs("the shortest, then the lowest", 9, 0, 7, 5, 6);
+        x.above(3, 9);
         x.relate(9, 0, ABOVE);
-        ringIs("the lower where they differ first", x, 9, 0, 1, 2, 3);
-        above(x, 0, 6);
+        x.ringIs("the lower where they differ first", 9, 0, 1, 2, 3);
+        x.above(0, 6);
         x.relate(9, 0, FILLS);
-        ringIs("a shorter one with higher numbers", x, 9, 0, 6);
+        x.ringIs("a shorter one with higher numbers", 9, 0, 6);
         x.relate(6, 0, ABOVE);
-        ringIs("the latest", x, 6, 0);
+        x.ringIs("the latest", 6, 0);
         Expect.same("far behind the end", NONE, x.ring(Integer.MAX_VALUE));
         x.relate(8, 8, ABOVE);
-        ringIs("one alone leaves nothing of the earlier", x, 8);
+        x.ringIs("one alone leaves nothing of the earlier", 8);
         x.relate(0, 8, EQUAL);
-        ringIs("equal", x, 0, 7, 8);
+        x.ringIs("equal", 0, 7, 8);
         x.relate(0, 9, ABOVE);
         x.undo(0);
-        ringIs("stays when others are related or undone", x, 0, 7, 8);
+        x.ringIs("stays when others are related or undone", 0, 7, 8);
         for (int k : new int[] {-1, Integer.MIN_VALUE}) {
             Expect.noPlace("ring(" + k + ")", () -> x.ring(k));
         }
-        RelationOrder chain = dig(48);
+        Dig chain = Dig.of(48);
         for (int i = 47; i > 0; i--) {
-            above(chain, i, i - 1);
+            chain.above(i, i - 1);
         }
         Expect.same("the longest ring", NONE, chain.relate(0, 47, CUTS));
         Expect.same("its first", 0, chain.ring(0));
@@ -218,27 +170,27 @@ public final class PromiseTest {
     }
 
     private static void promise4RingEqual() {
-        RelationOrder x = dig(7);
-        above(x, 4, 3, 3, 2, 4, 5, 5, 2);
+        Dig x = Dig.of(7);
+        x.above(4, 3, 3, 2, 4, 5, 5, 2);
         Expect.same("upper first", NONE, x.relate(4, 2, EQUAL));
-        ringIs("from the upper one on", x, 4, 3, 2);
+        x.ringIs("from the upper one on", 4, 3, 2);
         Expect.same("right above", NONE, x.relate(3, 2, EQUAL));
-        ringIs("two", x, 3, 2);
+        x.ringIs("two", 3, 2);
         Expect.same("lower first", NONE, x.relate(2, 4, EQUAL));
-        ringIs("from the upper one on as well", x, 4, 3, 2);
+        x.ringIs("from the upper one on as well", 4, 3, 2);
         x.relate(1, 4, EQUAL);
         x.relate(0, 2, EQUAL);
         Expect.same("by joined ones", NONE, x.relate(2, 4, EQUAL));
-        ringIs("by numbers", x, 1, 3, 0);
+        x.ringIs("by numbers", 1, 3, 0);
         Expect.same("above by joined ones", NONE, x.relate(2, 4, ABOVE));
-        ringIs("from a's number on", x, 0, 1, 3);
+        x.ringIs("from a's number on", 0, 1, 3);
         Expect.same("equal of joined ones is no ring", 6, x.relate(4, 1, EQUAL));
-        ringIs("and tells none", x, 0, 1, 3);
+        x.ringIs("and tells none", 0, 1, 3);
     }
 
     private static void promise5Undo() {
-        RelationOrder x = dig(5);
-        above(x, 0, 1, 1, 2);
+        Dig x = Dig.of(5);
+        x.above(0, 1, 1, 2);
         x.relate(3, 1, EQUAL);
         x.relate(0, 4, CONTEMPORARY);
         x.relate(0, 1, CUTS);
@@ -255,7 +207,7 @@ public final class PromiseTest {
         Expect.no("contemporary after", x.contemporary(4, 0));
         Expect.same("no ring any more", 5, x.relate(1, 0, ABOVE));
         for (int r : new int[] {Integer.MIN_VALUE, -1, 6, 200, Integer.MAX_VALUE}) {
-            Expect.noPlace("undo(" + r + ")", () -> x.undo(r) ? 1 : 0);
+            Expect.noPlace("undo(" + r + ")", () -> x.undo(r));
         }
         Expect.same("relations that count", 2, x.count(1));
         x.group();
@@ -265,10 +217,10 @@ public final class PromiseTest {
     }
 
     private static void promise6Order() {
-        RelationOrder x = dig(6);
-        above(x, 5, 3, 3, 1);
+        Dig x = Dig.of(6);
+        x.above(5, 3, 3, 1);
         x.relate(1, 4, EQUAL);
-        above(x, 4, 0);
+        x.above(4, 0);
         Expect.same("over", 1, x.order(5, 1));
         Expect.same("under", -1, x.order(1, 5));
         Expect.same("over by joined ones", 1, x.order(5, 0));
@@ -283,26 +235,26 @@ public final class PromiseTest {
     }
 
     private static void promises7And8Links() {
-        RelationOrder x = dig(7);
-        linksAre("none", x);
-        above(x, 5, 1, 1, 3, 5, 3, 1, 0, 5, 0);
-        linksAre("what lies between", x, 1, 0, 1, 3, 5, 1);
+        Dig x = Dig.of(7);
+        x.linksAre("none");
+        x.above(5, 1, 1, 3, 5, 3, 1, 0, 5, 0);
+        x.linksAre("what lies between", 1, 0, 1, 3, 5, 1);
         x.relate(3, 2, EQUAL);
-        linksAre("by numbers of joined ones", x, 1, 0, 1, 2, 5, 1);
-        above(x, 4, 3, 6, 3, 0, 6);
-        linksAre("through what came later", x, 0, 6, 1, 0, 4, 2, 5, 1, 6, 2);
+        x.linksAre("by numbers of joined ones", 1, 0, 1, 2, 5, 1);
+        x.above(4, 3, 6, 3, 0, 6);
+        x.linksAre("through what came later", 0, 6, 1, 0, 4, 2, 5, 1, 6, 2);
         x.undo(0);
-        linksAre("undone", x, 0, 6, 1, 0, 4, 2, 5, 0, 6, 2);
+        x.linksAre("undone", 0, 6, 1, 0, 4, 2, 5, 0, 6, 2);
         for (int far : FAR) {
             Expect.noPlace("link k " + far, () -> x.link(far, 0));
             Expect.noPlace("link which " + far, () -> x.link(0, far));
         }
         Expect.noPlace("link which 2", () -> x.link(0, 2));
         Expect.noPlace("link 5", () -> x.link(5, 1));
-        RelationOrder wide = dig(48);
+        Dig wide = Dig.of(48);
         for (int i = 0; i < 12; i++) {
             for (int j = 36; j < 48; j++) {
-                above(wide, i, j);
+                wide.above(i, j);
             }
         }
         Expect.same("wide links", 144, wide.links());
@@ -311,7 +263,7 @@ public final class PromiseTest {
     }
 
     private static void promise9Equal() {
-        RelationOrder x = dig(8);
+        Dig x = Dig.of(8);
         x.relate(7, 5, EQUAL);
         x.relate(3, 4, EQUAL);
         Expect.same("least of two", 5, x.equal(7));
@@ -332,7 +284,7 @@ public final class PromiseTest {
     }
 
     private static void promise10Contemporary() {
-        RelationOrder x = dig(8);
+        Dig x = Dig.of(8);
         x.relate(0, 1, CONTEMPORARY);
         x.relate(1, 2, CONTEMPORARY);
         Expect.yes("as told", x.contemporary(0, 1));
@@ -345,7 +297,7 @@ public final class PromiseTest {
         Expect.yes("joined", x.contemporary(0, 3));
         Expect.yes("itself", x.contemporary(5, 5));
         Expect.no("not told", x.contemporary(5, 6));
-        above(x, 5, 6);
+        x.above(5, 6);
         Expect.no("in order, not told", x.contemporary(5, 6));
         x.relate(5, 6, CONTEMPORARY);
         Expect.yes("in order and told", x.contemporary(6, 5));
@@ -355,14 +307,14 @@ public final class PromiseTest {
         Expect.no("undone", x.contemporary(0, 1));
         Expect.yes("the other stays", x.contemporary(4, 2));
         for (int far : new int[] {-1, 8, 48, Integer.MIN_VALUE, Integer.MAX_VALUE}) {
-            Expect.noPlace("contemporary a " + far, () -> x.contemporary(far, 0) ? 1 : 0);
-            Expect.noPlace("contemporary b " + far, () -> x.contemporary(0, far) ? 1 : 0);
+            Expect.noPlace("contemporary a " + far, () -> x.contemporary(far, 0));
+            Expect.noPlace("contemporary b " + far, () -> x.contemporary(0, far));
         }
     }
 
     private static void promise11Longest() {
-        RelationOrder x = dig(9);
-        above(x, 0, 1, 0, 2, 2, 3, 3, 1, 4, 1);
+        Dig x = Dig.of(9);
+        x.above(0, 1, 0, 2, 2, 3, 3, 1, 4, 1);
         Expect.same("top", 0, x.longest(0));
         Expect.same("the longest way", 3, x.longest(1));
         Expect.same("in the middle", 2, x.longest(3));
@@ -370,7 +322,7 @@ public final class PromiseTest {
         x.relate(1, 7, EQUAL);
         Expect.same("by joined one", 3, x.longest(7));
         x.relate(5, 2, EQUAL);
-        above(x, 6, 5, 8, 6);
+        x.above(6, 5, 8, 6);
         Expect.same("through joined ones", 4, x.longest(7));
         Expect.same("how many above 2", 2, x.longest(2));
         x.undo(2);
@@ -379,15 +331,15 @@ public final class PromiseTest {
         for (int far : new int[] {-1, 9, 48, Integer.MIN_VALUE, Integer.MAX_VALUE}) {
             Expect.noPlace("longest " + far, () -> x.longest(far));
         }
-        RelationOrder chain = dig(48);
+        Dig chain = Dig.of(48);
         for (int i = 0; i < 47; i++) {
-            above(chain, i, i + 1);
+            chain.above(i, i + 1);
         }
         Expect.same("the longest of all", 47, chain.longest(47));
     }
 
     private static void promise12Group() {
-        RelationOrder x = new RelationOrder();
+        Dig x = new Dig();
         for (int g = 0; g < 12; g++) {
             Expect.same("group()", g, x.group());
         }
@@ -399,21 +351,13 @@ public final class PromiseTest {
         Expect.same("its context", 11, x.groupOf(0));
     }
 
-    private static RelationOrder grouped(int contexts, int groups) {
-        RelationOrder x = dig(contexts);
-        for (int g = 0; g < groups; g++) {
-            x.group();
-        }
-        return x;
-    }
-
     private static void promise13Into() {
-        RelationOrder x = grouped(7, 4);
-        above(x, 0, 1, 1, 2, 2, 3);
+        Dig x = Dig.of(7, 4);
+        x.above(0, 1, 1, 2, 2, 3);
         Expect.yes("first", x.into(0, 0));
         Expect.yes("second", x.into(1, 1));
         Expect.no("a ring", x.into(0, 2));
-        groupRingIs("from the one asked for on", x, 0, 1);
+        x.groupRingIs("from the one asked for on", 0, 1);
         Expect.same("nothing changes", NONE, x.groupOf(2));
         Expect.yes("order inside a group is no ring", x.into(1, 2));
         Expect.yes("again into its own", x.into(1, 2));
@@ -424,34 +368,34 @@ public final class PromiseTest {
         Expect.no("by joined ones", x.into(0, 4));
         Expect.yes("joined ones in two groups", x.into(2, 4) && x.into(3, 3));
         for (int far : new int[] {-1, 4, 12, Integer.MIN_VALUE, Integer.MAX_VALUE}) {
-            Expect.noPlace("into group " + far, () -> x.into(far, 0) ? 1 : 0);
+            Expect.noPlace("into group " + far, () -> x.into(far, 0));
         }
         for (int far : new int[] {-1, 7, 48, Integer.MIN_VALUE, Integer.MAX_VALUE}) {
-            Expect.noPlace("into context " + far, () -> x.into(0, far) ? 1 : 0);
+            Expect.noPlace("into context " + far, () -> x.into(0, far));
         }
         Expect.same("a wrong call moves nothing", 0, x.groupOf(0));
     }
 
     private static void promise13IntoWithoutMoving() {
-        RelationOrder x = grouped(7, 4);
+        Dig x = Dig.of(7, 4);
         x.into(0, 0);
         x.into(0, 1);
         x.into(1, 2);
         x.into(1, 3);
-        above(x, 0, 2, 3, 1);
+        x.above(0, 2, 3, 1);
         Expect.no("a ring that relate made", x.into(1, 5));
-        groupRingIs("relate's ring", x, 1, 0);
+        x.groupRingIs("relate's ring", 1, 0);
         Expect.no("even where it is already", x.into(0, 1));
-        groupRingIs("where it is", x, 0, 1);
+        x.groupRingIs("where it is", 0, 1);
         Expect.same("and it stays there", 0, x.groupOf(1));
         Expect.yes("a ring of other groups does not matter", x.into(2, 5));
         Expect.yes("the move out ends the ring", x.into(3, 3));
         Expect.yes("so there is none", x.into(1, 6));
-        groupRingIs("the latest stays", x, 0, 1);
+        x.groupRingIs("the latest stays", 0, 1);
     }
 
     private static void promise14GroupRing() {
-        RelationOrder x = grouped(12, 6);
+        Dig x = Dig.of(12, 6);
         for (int g = 0; g < 5; g++) {
             x.into(g, 2 * g);
         }
@@ -459,40 +403,40 @@ public final class PromiseTest {
         x.into(2, 5);
         x.into(3, 7);
         // Group 0 over 2 and 1, both over 3, 3 over 4: two ways of equal length.
-        above(x, 0, 4, 0, 2, 3, 6, 5, 6, 7, 8);
+        x.above(0, 4, 0, 2, 3, 6, 5, 6, 7, 8);
         Expect.same("no ring yet", NONE, x.groupRing(0));
-        above(x, 9, 1);
+        x.above(9, 1);
         x.into(0, 1);
         Expect.no("a ring of four", x.into(4, 9));
-        groupRingIs("lower where they differ first", x, 4, 0, 1, 3);
-        above(x, 2, 10);
+        x.groupRingIs("lower where they differ first", 4, 0, 1, 3);
+        x.above(2, 10);
         x.into(2, 11);
-        above(x, 11, 8);
+        x.above(11, 8);
         Expect.no("a shorter ring", x.into(4, 9));
-        groupRingIs("the shortest, though higher", x, 4, 0, 2);
+        x.groupRingIs("the shortest, though higher", 4, 0, 2);
         Expect.same("far behind", NONE, x.groupRing(Integer.MAX_VALUE));
         Expect.yes("a move that may be", x.into(5, 9));
-        groupRingIs("stays", x, 4, 0, 2);
+        x.groupRingIs("stays", 4, 0, 2);
         Expect.same("relate's rings are others", NONE, x.ring(0));
         x.relate(4, 0, ABOVE);
-        groupRingIs("relate tells none of groups", x, 4, 0, 2);
+        x.groupRingIs("relate tells none of groups", 4, 0, 2);
         for (int k : new int[] {-1, Integer.MIN_VALUE}) {
             Expect.noPlace("groupRing(" + k + ")", () -> x.groupRing(k));
         }
-        RelationOrder all = grouped(24, 12);
+        Dig all = Dig.of(24, 12);
         for (int g = 0; g < 12; g++) {
             all.into(g, 2 * g);
             all.into(g, 2 * g + 1);
         }
         for (int g = 0; g < 12; g++) {
-            above(all, 2 * g, 2 * ((g + 1) % 12) + 1);
+            all.above(2 * g, 2 * ((g + 1) % 12) + 1);
         }
         Expect.no("all in a ring", all.into(7, 14));
-        groupRingIs("all", all, 7, 8, 9, 10, 11, 0, 1, 2, 3, 4, 5, 6);
+        all.groupRingIs("all", 7, 8, 9, 10, 11, 0, 1, 2, 3, 4, 5, 6);
     }
 
     private static void promise15GroupOf() {
-        RelationOrder x = grouped(3, 2);
+        Dig x = Dig.of(3, 2);
         Expect.same("none", NONE, x.groupOf(0));
         x.into(1, 0);
         Expect.same("in one", 1, x.groupOf(0));
@@ -506,81 +450,81 @@ public final class PromiseTest {
     }
 
     private static void promise16Version() {
-        RelationOrder x = new RelationOrder();
+        Dig x = new Dig();
         for (int v = 0; v < 8; v++) {
             Expect.same("version()", v, x.version());
             x.context();
         }
         Expect.full("version 8", x::version);
         Expect.full("version 8 again", x::version);
-        differencesAre("first and last", x, 0, 7, 0, 1, 2, 3, 4, 5, 6);
-        differencesAre("a full call changed nothing", x, 6, 7, 6);
+        x.differencesAre("first and last", 0, 7, 0, 1, 2, 3, 4, 5, 6);
+        x.differencesAre("a full call changed nothing", 6, 7, 6);
     }
 
     private static void promise17Differs() {
-        RelationOrder x = dig(6);
-        above(x, 0, 1, 1, 2);
+        Dig x = Dig.of(6);
+        x.above(0, 1, 1, 2);
         x.version();
         x.version();
-        differencesAre("the same", x, 0, 1);
-        differencesAre("one version", x, 1, 1);
+        x.differencesAre("the same", 0, 1);
+        x.differencesAre("one version", 1, 1);
         x.context();
         x.version();
-        differencesAre("a later context", x, 0, 2, 6);
+        x.differencesAre("a later context", 0, 2, 6);
         x.relate(3, 4, EQUAL);
         x.version();
-        differencesAre("joined: only whose number is another", x, 2, 3, 4);
+        x.differencesAre("joined: only whose number is another", 2, 3, 4);
         x.relate(2, 5, EQUAL);
         x.version();
-        differencesAre("all of a joined one lie under those above", x, 3, 4, 0, 1, 5);
+        x.differencesAre("all of a joined one lie under those above", 3, 4, 0, 1, 5);
         x.relate(3, 5, CONTEMPORARY);
         x.group();
         x.into(0, 3);
         x.version();
-        differencesAre("contemporary and groups tell no order", x, 4, 5);
-        above(x, 0, 2);
+        x.differencesAre("contemporary and groups tell no order", 4, 5);
+        x.above(0, 2);
         x.version();
-        differencesAre("nothing new by it", x, 5, 6);
+        x.differencesAre("nothing new by it", 5, 6);
         x.undo(1);
         x.version();
-        differencesAre("between undone", x, 6, 7, 1, 2, 5);
+        x.differencesAre("between undone", 6, 7, 1, 2, 5);
         for (int far : new int[] {-1, 8, Integer.MIN_VALUE, Integer.MAX_VALUE}) {
             Expect.noPlace("differs one " + far, () -> x.differs(far, 0, 0));
             Expect.noPlace("differs other " + far, () -> x.differs(0, far, 0));
         }
         Expect.noPlace("differs k -1", () -> x.differs(0, 1, -1));
         Expect.noPlace("differs k least", () -> x.differs(0, 1, Integer.MIN_VALUE));
-        RelationOrder few = dig(1);
+        Dig few = Dig.of(1);
         few.version();
         Expect.noPlace("no version 1 yet", () -> few.differs(0, 1, 0));
     }
 
     private static void promise17DiffersByOrder() {
-        RelationOrder x = dig(5);
+        Dig x = Dig.of(5);
         x.version();
-        above(x, 2, 4);
+        x.above(2, 4);
         x.version();
-        differencesAre("upper and lower", x, 0, 1, 2, 4);
+        x.differencesAre("upper and lower", 0, 1, 2, 4);
         x.undo(0);
         x.version();
-        differencesAre("undone is as before", x, 0, 2);
-        above(x, 4, 2);
+        x.differencesAre("undone is as before", 0, 2);
+        x.above(4, 2);
         x.version();
-        differencesAre("the other way round", x, 1, 3, 2, 4);
+        x.differencesAre("the other way round", 1, 3, 2, 4);
         x.context();
-        above(x, 5, 0);
+        x.above(5, 0);
         x.version();
-        differencesAre("a later one above", x, 3, 4, 0, 5);
-        RelationOrder all = dig(48);
+        x.differencesAre("a later one above", 3, 4, 0, 5);
+        Dig all = Dig.of(48);
         all.version();
-        above(all, 0, 47);
+        all.above(0, 47);
         all.version();
-        differencesAre("the last context too", all, 0, 1, 0, 47);
+        all.differencesAre("the last context too", 0, 1, 0, 47);
     }
 
     private static void promise18Count() {
-        RelationOrder x = grouped(6, 3);
-        above(x, 0, 1, 1, 2, 0, 3);
+        Dig x = Dig.of(6, 3);
+        x.above(0, 1, 1, 2, 0, 3);
         x.relate(3, 4, EQUAL);
         x.relate(4, 5, CONTEMPORARY);
         Expect.same("contexts", 6, x.count(0));
