@@ -1,12 +1,16 @@
-import java.util.function.Consumer;
+import java.util.ArrayList;
+import java.util.List;
 import java.util.function.Supplier;
 
-/** The document's "EXCEPTIONS": every call that there is nothing for, or no room, by itself. */
+/**
+ * The document's "EXCEPTIONS", promise by promise: every call that there is nothing for, or no room,
+ * throws what is told and changes nothing.
+ */
 public final class ExceptionEdgeTest {
     // What there is not in Dig.rich(): it has contexts 0 .. 6, relations 0 .. 5, groups 0 .. 2,
     // versions 0 and 1, links 0 .. 2.
     private static final int[] NO_CONTEXT = {Integer.MIN_VALUE, -48, -1, 7, 8, 48, 64, Integer.MAX_VALUE};
-    private static final int[] NO_RELATION = {Integer.MIN_VALUE, -1, 6, 200, Integer.MAX_VALUE};
+    private static final int[] NO_RELATION = {Integer.MIN_VALUE, -1, 6, 199, 200, Integer.MAX_VALUE};
     private static final int[] NO_KIND = {Integer.MIN_VALUE, -1, 5, Integer.MAX_VALUE};
     private static final int[] NO_GROUP = {Integer.MIN_VALUE, -1, 3, 11, 12, Integer.MAX_VALUE};
     private static final int[] NO_VERSION = {Integer.MIN_VALUE, -1, 2, 7, 8, Integer.MAX_VALUE};
@@ -26,104 +30,108 @@ public final class ExceptionEdgeTest {
     }
 
     public static void main(String[] args) {
-        Expect.sentence("Terms, all promises", "there is no such context, relation, kind, group, version, place",
-                ExceptionEdgeTest::whatIsNotThereThrows);
-        Expect.sentence("Terms, all promises", "Such a call changes nothing: IndexOutOfBoundsException",
-                ExceptionEdgeTest::whatIsNotThereChangesNothing);
-        Expect.sentence("Terms, all promises", "Such a call changes nothing: IllegalStateException",
-                ExceptionEdgeTest::whatIsFullChangesNothing);
+        noSuch(3, "no such context", relateOfNoContext());
+        noSuch(3, "no such kind", relateOfNoKind());
+        noSuch(4, "no such place", with(NO_PLACE, "ring", (x, k) -> x.ring(k)));
+        noSuch(5, "no such relation", with(NO_RELATION, "undo", (x, r) -> x.undo(r)));
+        noSuch(6, "no such context", withTwo(NO_CONTEXT, "order", (x, a, b) -> x.order(a, b)));
+        noSuch(8, "no such place", with(NO_LINK, "link of which 0", (x, k) -> x.link(k, 0)));
+        noSuch(8, "no such place", with(NO_LINK, "link of which 1", (x, k) -> x.link(k, 1)));
+        noSuch(8, "no such place", with(NO_END, "link 2 of which", (x, end) -> x.link(2, end)));
+        noSuch(9, "no such context", with(NO_CONTEXT, "equal", (x, c) -> x.equal(c)));
+        noSuch(10, "no such context",
+                withTwo(NO_CONTEXT, "contemporary", (x, a, b) -> x.contemporary(a, b)));
+        noSuch(11, "no such context", with(NO_CONTEXT, "longest", (x, c) -> x.longest(c)));
+        noSuch(13, "no such group", with(NO_GROUP, "into with context 0, group", (x, g) -> x.into(g, 0)));
+        noSuch(13, "no such context", with(NO_CONTEXT, "into group 0, context", (x, c) -> x.into(0, c)));
+        noSuch(14, "no such place", with(NO_PLACE, "groupRing", (x, k) -> x.groupRing(k)));
+        noSuch(15, "no such context", with(NO_CONTEXT, "groupOf", (x, c) -> x.groupOf(c)));
+        noSuch(17, "no such version", withTwo(NO_VERSION, "differs", (x, v, w) -> x.differs(v, w, 0)));
+        noSuch(17, "no such place", with(NO_PLACE, "differs 0, 1", (x, k) -> x.differs(0, 1, k)));
+        noSuch(17, "no such place", with(NO_PLACE, "differs 1, 1", (x, k) -> x.differs(1, 1, k)));
+        noSuch(18, "no such place", with(NO_WHAT, "count", (x, what) -> x.count(what)));
+        noRoom(2, ExceptionEdgeTest::fullOfContexts, new Wrong("context", Dig::context));
+        for (int kind = 0; kind <= 4; kind++) {
+            int some = kind;
+            noRoom(3, ExceptionEdgeTest::fullOfRelations,
+                    new Wrong("relate of kind " + kind, x -> x.relate(6, 5, some)));
+        }
+        noRoom(12, ExceptionEdgeTest::fullOfGroups, new Wrong("group", Dig::group));
+        noRoom(16, ExceptionEdgeTest::fullOfVersions, new Wrong("version", Dig::version));
         Expect.end();
     }
 
-    /** All wrong calls of Dig.rich(), one by one. */
-    private static void wrongCalls(Consumer<Wrong> each) {
-        for (int c : NO_CONTEXT) {
-            for (int kind = 0; kind <= 4; kind++) {
-                int some = kind;
-                each.accept(new Wrong("relate a " + c + ", " + kind, x -> x.relate(c, 0, some)));
-                each.accept(new Wrong("relate b " + c + ", " + kind, x -> x.relate(3, c, some)));
+    private static void noSuch(int promise, String side, List<Wrong> all) {
+        Expect.sentence("Promise " + promise, "IndexOutOfBoundsException", side, () -> {
+            for (Wrong wrong : all) {
+                Dig x = Dig.rich();
+                Expect.noPlace(wrong.name(), () -> wrong.call().of(x));
+                Expect.noPlace(wrong.name() + ", again", () -> wrong.call().of(x));
             }
-            each.accept(new Wrong("relate both " + c, x -> x.relate(c, c, Dig.ABOVE)));
-            each.accept(new Wrong("order a " + c, x -> x.order(c, 0)));
-            each.accept(new Wrong("order b " + c, x -> x.order(0, c)));
-            each.accept(new Wrong("order both " + c, x -> x.order(c, c)));
-            each.accept(new Wrong("equal " + c, x -> x.equal(c)));
-            each.accept(new Wrong("contemporary a " + c, x -> x.contemporary(c, 0)));
-            each.accept(new Wrong("contemporary b " + c, x -> x.contemporary(0, c)));
-            each.accept(new Wrong("contemporary both " + c, x -> x.contemporary(c, c)));
-            each.accept(new Wrong("longest " + c, x -> x.longest(c)));
-            each.accept(new Wrong("into context " + c, x -> x.into(0, c)));
-            each.accept(new Wrong("groupOf " + c, x -> x.groupOf(c)));
-        }
-        for (int kind : NO_KIND) {
-            each.accept(new Wrong("relate kind " + kind, x -> x.relate(6, 5, kind)));
-            each.accept(new Wrong("relate kind " + kind + " of a ring", x -> x.relate(2, 0, kind)));
-        }
-        for (int r : NO_RELATION) {
-            each.accept(new Wrong("undo " + r, x -> x.undo(r)));
-        }
-        for (int g : NO_GROUP) {
-            each.accept(new Wrong("into group " + g, x -> x.into(g, 0)));
-            each.accept(new Wrong("into group " + g + ", context " + g, x -> x.into(g, g)));
-        }
-        for (int v : NO_VERSION) {
-            each.accept(new Wrong("differs one " + v, x -> x.differs(v, 0, 0)));
-            each.accept(new Wrong("differs other " + v, x -> x.differs(0, v, 0)));
-            each.accept(new Wrong("differs both " + v, x -> x.differs(v, v, 0)));
-        }
-        wrongPlaces(each);
-    }
-
-    private static void wrongPlaces(Consumer<Wrong> each) {
-        for (int k : NO_PLACE) {
-            each.accept(new Wrong("ring " + k, x -> x.ring(k)));
-            each.accept(new Wrong("groupRing " + k, x -> x.groupRing(k)));
-            each.accept(new Wrong("differs k " + k, x -> x.differs(0, 1, k)));
-            each.accept(new Wrong("differs of the same k " + k, x -> x.differs(1, 1, k)));
-        }
-        for (int k : NO_LINK) {
-            each.accept(new Wrong("link " + k + ", 0", x -> x.link(k, 0)));
-            each.accept(new Wrong("link " + k + ", 1", x -> x.link(k, 1)));
-        }
-        for (int end : NO_END) {
-            each.accept(new Wrong("link 0, " + end, x -> x.link(0, end)));
-            each.accept(new Wrong("link 3, " + end, x -> x.link(3, end)));
-        }
-        for (int what : NO_WHAT) {
-            each.accept(new Wrong("count " + what, x -> x.count(what)));
-        }
-    }
-
-    private static void whatIsNotThereThrows() {
-        wrongCalls(wrong -> {
-            Dig x = Dig.rich();
-            Expect.noPlace(wrong.name(), () -> wrong.call().of(x));
-            Expect.noPlace(wrong.name() + ", again", () -> wrong.call().of(x));
+        });
+        Expect.sentence("Promise " + promise, "Such a call changes nothing", side, () -> {
+            for (Wrong wrong : all) {
+                Twins.changesNothing(wrong.name(), Dig::rich, x -> Expect.told(() -> wrong.call().of(x)));
+            }
         });
     }
 
-    private static void whatIsNotThereChangesNothing() {
-        wrongCalls(wrong -> Twins.changesNothing(wrong.name(), Dig::rich,
-                x -> Expect.told(() -> wrong.call().of(x))));
+    private static void noRoom(int promise, Supplier<Dig> full, Wrong wrong) {
+        Expect.sentence("Promise " + promise, "IllegalStateException as told", wrong.name(), () -> {
+            Dig x = full.get();
+            Expect.full(wrong.name(), () -> wrong.call().of(x));
+            Expect.full(wrong.name() + ", again", () -> wrong.call().of(x));
+        });
+        Expect.sentence("Promise " + promise, "Such a call changes nothing", wrong.name(), () -> {
+            Twins.changesNothing(wrong.name(), full, x -> Expect.told(() -> wrong.call().of(x)));
+            Twins.changesNothing(wrong.name() + " twice", full, x -> {
+                Expect.told(() -> wrong.call().of(x));
+                Expect.told(() -> wrong.call().of(x));
+            });
+        });
     }
 
-    private static void whatIsFullChangesNothing() {
-        changesNothing("context()", ExceptionEdgeTest::fullOfContexts, Dig::context);
-        changesNothing("group()", ExceptionEdgeTest::fullOfGroups, Dig::group);
-        changesNothing("version()", ExceptionEdgeTest::fullOfVersions, Dig::version);
+    private interface OfOne {
+        Object of(Dig x, int value);
+    }
+
+    private interface OfTwo {
+        Object of(Dig x, int first, int second);
+    }
+
+    private static List<Wrong> with(int[] values, String name, OfOne call) {
+        List<Wrong> all = new ArrayList<>();
+        for (int value : values) {
+            all.add(new Wrong(name + " " + value, x -> call.of(x, value)));
+        }
+        return all;
+    }
+
+    /** A wrong value in the first place, in the second, in both. */
+    private static List<Wrong> withTwo(int[] values, String name, OfTwo call) {
+        List<Wrong> all = new ArrayList<>();
+        for (int value : values) {
+            all.add(new Wrong(name + " " + value + ", 0", x -> call.of(x, value, 0)));
+            all.add(new Wrong(name + " 0, " + value, x -> call.of(x, 0, value)));
+            all.add(new Wrong(name + " " + value + ", " + value, x -> call.of(x, value, value)));
+        }
+        return all;
+    }
+
+    private static List<Wrong> relateOfNoContext() {
+        List<Wrong> all = new ArrayList<>();
         for (int kind = 0; kind <= 4; kind++) {
             int some = kind;
-            changesNothing("relate(6, 5, " + kind + ")", ExceptionEdgeTest::fullOfRelations,
-                    x -> x.relate(6, 5, some));
+            all.addAll(withTwo(NO_CONTEXT, "relate of kind " + kind, (x, a, b) -> x.relate(a, b, some)));
         }
+        return all;
     }
 
-    private static void changesNothing(String what, Supplier<Dig> made, Call call) {
-        Twins.changesNothing(what, made, x -> Expect.full(what, () -> call.of(x)));
-        Twins.changesNothing(what + " twice", made, x -> {
-            Expect.full(what, () -> call.of(x));
-            Expect.full(what + " again", () -> call.of(x));
-        });
+    /** Of a pair that could be related, and of one that would be a ring. */
+    private static List<Wrong> relateOfNoKind() {
+        List<Wrong> all = with(NO_KIND, "relate 6, 5 of kind", (x, kind) -> x.relate(6, 5, kind));
+        all.addAll(with(NO_KIND, "relate 2, 0 of kind", (x, kind) -> x.relate(2, 0, kind)));
+        return all;
     }
 
     private static Dig fullOfContexts() {
@@ -145,6 +153,7 @@ public final class ExceptionEdgeTest {
         for (int v = 2; v < 8; v++) {
             Expect.same("version()", v, x.version());
         }
+        // What a ninth version would tell that the eighth does not.
         x.above(6, 0);
         return x;
     }

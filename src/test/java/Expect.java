@@ -14,7 +14,16 @@ final class Expect {
 
     /** The test of one sentence; where tells the promise, or the part of the document. */
     static void sentence(String where, String words, Runnable test) {
-        heading = where + ", \"" + words + "\": ";
+        test(where + ", \"" + words + "\": ", test);
+    }
+
+    /** The test of one side of a sentence that has several. */
+    static void sentence(String where, String words, String side, Runnable test) {
+        test(where + ", \"" + words + "\", " + side + ": ", test);
+    }
+
+    private static void test(String name, Runnable test) {
+        heading = name;
         int before = checks;
         sentences++;
         try {

@@ -10,25 +10,31 @@ public final class GroupEdgeTest {
 
     public static void main(String[] args) {
         Expect.sentence("Promise 12", "A group: its number", GroupEdgeTest::groupsAreNumberedOn);
-        Expect.sentence("Promise 12", "A group: it has no contexts", GroupEdgeTest::aNewGroupIsEmpty);
-        Expect.sentence("Promise 12", "IllegalStateException: there are twelve", GroupEdgeTest::thereAreTwelve);
+        Expect.sentence("Promise 12", "A group: its number", "it has no contexts yet",
+                GroupEdgeTest::aNewGroupIsEmpty);
+        Expect.sentence("Promise 12", "IllegalStateException: there are twelve",
+                GroupEdgeTest::thereAreTwelve);
         Expect.sentence("Promise 13", "A context comes into a group", GroupEdgeTest::intoAGroup);
         Expect.sentence("Promise 13", "(out of that where it was)", GroupEdgeTest::outOfAGroup);
-        Expect.sentence("Promise 13", "no, if there would be a ring of groups", GroupEdgeTest::ringsAreRefused);
+        Expect.sentence("Promise 13", "no, if there would be a ring of groups",
+                GroupEdgeTest::ringsAreRefused);
         Expect.sentence("Promise 13", "a ring of groups then that has this one in it",
                 GroupEdgeTest::ringsOfOthersDoNotMatter);
-        Expect.sentence("Promise 13", "there would be a ring then: also one that relate() made",
-                GroupEdgeTest::ringsThatAreThereAlready);
+        Expect.sentence("Promise 13", "if there would be a ring of groups then",
+                "also one that relate() made", GroupEdgeTest::ringsThatAreThereAlready);
         Expect.sentence("Promise 13", "nothing changes, but that the shortest such ring is told",
                 GroupEdgeTest::refusedMovesChangeNothing);
         Expect.sentence("Promise 13", "the shortest such ring", GroupEdgeTest::theShortestRingIsTold);
         Expect.sentence("Promise 13", "IndexOutOfBoundsException", GroupEdgeTest::intoNothing);
-        Expect.sentence("Promise 14", "the ring of groups that was told latest", GroupEdgeTest::theLatestRing);
-        Expect.sentence("Promise 14", "the ring of groups that was told: it stays",
+        Expect.sentence("Promise 14", "the ring of groups that was told latest",
+                GroupEdgeTest::theLatestRing);
+        Expect.sentence("Promise 14", "the ring of groups that was told latest", "it stays",
                 GroupEdgeTest::aToldRingStays);
         Expect.sentence("Promise 14", "NONE behind its end", GroupEdgeTest::noneBehindARingsEnd);
-        Expect.sentence("Promise 14", "NONE behind its end: no ring was told", GroupEdgeTest::noRingYet);
-        Expect.sentence("Promise 14", "IndexOutOfBoundsException: k is below 0", GroupEdgeTest::ringBelow0);
+        Expect.sentence("Promise 14", "NONE behind its end", "no ring was told",
+                GroupEdgeTest::noRingYet);
+        Expect.sentence("Promise 14", "IndexOutOfBoundsException: k is below 0",
+                GroupEdgeTest::ringBelow0);
         Expect.sentence("Promise 15", "A context's group", GroupEdgeTest::groupOfEach);
         Expect.sentence("Promise 15", "NONE", GroupEdgeTest::groupOfNone);
         Expect.sentence("Promise 15", "IndexOutOfBoundsException", GroupEdgeTest::groupOfNothing);
@@ -111,6 +117,14 @@ public final class GroupEdgeTest {
         x.homesAre("each in one", 2, 0, 1, NONE);
         x.intoRefused(1, 0, 1, 0);
         x.homesAre("a refused one is not taken out", 2, 0, 1, NONE);
+        Dig y = Dig.of(3, 3);
+        y.above(0, 1, 0, 2);
+        Expect.yes("two in the first", y.into(0, 0) && y.into(0, 1));
+        Expect.yes("the first is over the second by 0", y.into(1, 2));
+        Expect.yes("but not when 0 is in the second", y.into(1, 0));
+        Expect.yes("and back", y.into(0, 0));
+        Expect.yes("the one over both into a third", y.into(2, 0));
+        y.homesAre("each in one", 2, 0, 1);
     }
 
     private static void ringsAreRefused() {
@@ -129,6 +143,12 @@ public final class GroupEdgeTest {
         Expect.yes("into the group that it lies over", x.into(0, 22));
         x.intoRefused(11, 22, 11, 0, 1, 2, 3, 4, 5, 6, 7, 8, 9, 10);
         Expect.same("22 stays where it was", 0, x.groupOf(22));
+        Dig back = Dig.of(48, 2);
+        back.above(47, 31, 31, 0);
+        back.into(0, 47);
+        back.into(1, 31);
+        back.intoRefused(0, 0, 0, 1);
+        Expect.yes("the lowest into the lower group", back.into(1, 0));
     }
 
     private static void ringsOfOthersDoNotMatter() {

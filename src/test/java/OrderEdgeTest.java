@@ -15,27 +15,33 @@ public final class OrderEdgeTest {
         Expect.sentence("Promise 6", "1: a is over b, -1: under it", OrderEdgeTest::orderOfTheFarthest);
         Expect.sentence("Promise 6", "0: neither", OrderEdgeTest::orderOfNeither);
         Expect.sentence("Promise 6", "IndexOutOfBoundsException", OrderEdgeTest::orderOfNothing);
-        Expect.sentence("Promise 7", "How many links there are: none", OrderEdgeTest::noLinks);
-        Expect.sentence("Promise 7", "How many links there are: told twice", OrderEdgeTest::linksToldTwice);
-        Expect.sentence("Promise 7", "How many links there are: the most", OrderEdgeTest::mostLinks);
-        Expect.sentence("Promise 7", "How many links there are: refused and undone relations",
+        Expect.sentence("Promise 7", "How many links there are", "none", OrderEdgeTest::noLinks);
+        Expect.sentence("Promise 7", "How many links there are", "told twice",
+                OrderEdgeTest::linksToldTwice);
+        Expect.sentence("Promise 7", "How many links there are", "the most", OrderEdgeTest::mostLinks);
+        Expect.sentence("Promise 7", "How many links there are", "refused and undone relations",
                 OrderEdgeTest::linksOfRefusedAndUndone);
         Expect.sentence("Promise 8", "Link k: the upper one's number (0) or the lower one's (1)",
                 OrderEdgeTest::firstAndLastLink);
-        Expect.sentence("Promise 8", "IndexOutOfBoundsException: no such link", OrderEdgeTest::linkOfNothing);
-        Expect.sentence("Promise 8", "IndexOutOfBoundsException: neither 0 nor 1", OrderEdgeTest::linkHasTwoEnds);
-        Expect.sentence("Promise 9", "The number of the joined one of a context", OrderEdgeTest::equalOfOne);
+        Expect.sentence("Promise 8", "IndexOutOfBoundsException", "no such link",
+                OrderEdgeTest::linkOfNothing);
+        Expect.sentence("Promise 8", "IndexOutOfBoundsException", "neither 0 nor 1",
+                OrderEdgeTest::linkHasTwoEnds);
+        Expect.sentence("Promise 9", "The number of the joined one of a context",
+                OrderEdgeTest::equalOfOne);
         Expect.sentence("Promise 9", "IndexOutOfBoundsException", OrderEdgeTest::equalOfNothing);
         Expect.sentence("Promise 10", "told to be contemporary", OrderEdgeTest::contemporaryAsTold);
-        Expect.sentence("Promise 10", "(or any joined with them)", OrderEdgeTest::contemporaryByJoinedOnes);
+        Expect.sentence("Promise 10", "(or any joined with them)",
+                OrderEdgeTest::contemporaryByJoinedOnes);
         Expect.sentence("Promise 10", "or are joined", OrderEdgeTest::contemporaryIfJoined);
         Expect.sentence("Promise 10", "IndexOutOfBoundsException", OrderEdgeTest::contemporaryOfNothing);
-        Expect.sentence("Promise 11", "The longest way down: none above it", OrderEdgeTest::longestOfNone);
+        Expect.sentence("Promise 11", "The longest way down", "none above it",
+                OrderEdgeTest::longestOfNone);
         Expect.sentence("Promise 11", "how many others lie one over the other above it",
                 OrderEdgeTest::longestOneOverTheOther);
         Expect.sentence("Promise 11", "The longest way down to a context's joined one",
                 OrderEdgeTest::longestOfJoinedOnes);
-        Expect.sentence("Promise 11", "The longest way down: of all", OrderEdgeTest::longestOfAll);
+        Expect.sentence("Promise 11", "The longest way down", "of all", OrderEdgeTest::longestOfAll);
         Expect.sentence("Promise 11", "IndexOutOfBoundsException", OrderEdgeTest::longestOfNothing);
         Expect.end();
     }

@@ -14,39 +14,45 @@ public final class TellingEdgeTest {
 
     public static void main(String[] args) {
         Expect.sentence("Promise 1", "No contexts", TellingEdgeTest::aNewObjectIsEmpty);
-        Expect.sentence("Promise 1", "No contexts: nothing can be told of them",
+        Expect.sentence("Promise 1", "No contexts", "nothing can be told of them",
                 TellingEdgeTest::aNewObjectHasNothingToAskFor);
         Expect.sentence("Promise 1", "A new object", TellingEdgeTest::objectsShareNothing);
         Expect.sentence("Promise 2", "A context: its number", TellingEdgeTest::contextsAreNumberedOn);
-        Expect.sentence("Promise 2", "A context: its number, and nothing told of it",
+        Expect.sentence("Promise 2", "A context: its number", "nothing is told of it yet",
                 TellingEdgeTest::aNewContextIsAlone);
         Expect.sentence("Promise 2", "IllegalStateException: there are 48", TellingEdgeTest::thereAre48);
         Expect.sentence("Promise 3", "A relation: its number", TellingEdgeTest::relationsAreNumberedOn);
         Expect.sentence("Promise 3", "NONE, if there would be a ring", TellingEdgeTest::ringsAreRefused);
-        Expect.sentence("Promise 3", "NONE, if there would be a ring: for EQUAL",
+        Expect.sentence("Promise 3", "NONE, if there would be a ring", "for EQUAL",
                 TellingEdgeTest::ringsByEqualAreRefused);
-        Expect.sentence("Promise 3", "NONE, if there would be a ring: else not",
+        Expect.sentence("Promise 3", "NONE, if there would be a ring", "else not",
                 TellingEdgeTest::whatIsNoRingIsTaken);
         Expect.sentence("Promise 3", "nothing changes, but that this ring is told",
                 TellingEdgeTest::refusedRelationsChangeNothing);
         Expect.sentence("Promise 3", "if the one that is over the other one were also right below it",
                 TellingEdgeTest::equalTellsTheShortestWayDown);
-        Expect.sentence("Promise 3", "from the upper one's number on", TellingEdgeTest::equalBeginsAtTheUpper);
+        Expect.sentence("Promise 3", "from the upper one's number on",
+                TellingEdgeTest::equalBeginsAtTheUpper);
         Expect.sentence("Promise 3", "else from a's on", TellingEdgeTest::othersBeginAtA);
         Expect.sentence("Promise 3", "IndexOutOfBoundsException", TellingEdgeTest::relateOfNothing);
-        Expect.sentence("Promise 3", "IllegalStateException: there were 200", TellingEdgeTest::thereWere200);
+        Expect.sentence("Promise 3", "IllegalStateException: there were 200",
+                TellingEdgeTest::thereWere200);
         Expect.sentence("Promise 4", "the ring that was told latest by relate()",
                 TellingEdgeTest::theLatestRing);
-        Expect.sentence("Promise 4", "the ring that was told: it stays", TellingEdgeTest::aToldRingStays);
+        Expect.sentence("Promise 4", "the ring that was told latest by relate()", "it stays",
+                TellingEdgeTest::aToldRingStays);
         Expect.sentence("Promise 4", "NONE behind its end", TellingEdgeTest::noneBehindARingsEnd);
-        Expect.sentence("Promise 4", "NONE behind its end: no ring was told", TellingEdgeTest::noRingYet);
-        Expect.sentence("Promise 4", "IndexOutOfBoundsException: k is below 0", TellingEdgeTest::ringBelow0);
+        Expect.sentence("Promise 4", "NONE behind its end", "no ring was told",
+                TellingEdgeTest::noRingYet);
+        Expect.sentence("Promise 4", "IndexOutOfBoundsException: k is below 0",
+                TellingEdgeTest::ringBelow0);
         Expect.sentence("Promise 5", "whether it was not before", TellingEdgeTest::undoneOnce);
-        Expect.sentence("Promise 5", "whether it was not before: no, and nothing changes",
+        Expect.sentence("Promise 5", "whether it was not before", "no, and nothing changes",
                 TellingEdgeTest::undoneTwice);
-        Expect.sentence("Promise 5", "A relation is undone: that one alone", TellingEdgeTest::othersStand);
+        Expect.sentence("Promise 5", "A relation is undone", "that one alone",
+                TellingEdgeTest::othersStand);
         Expect.sentence("Promise 5", "Groups stay as they are", TellingEdgeTest::groupsStay);
-        Expect.sentence("Promise 5", "A relation is undone: rings and versions stay",
+        Expect.sentence("Promise 5", "A relation is undone", "rings and versions stay",
                 TellingEdgeTest::ringsAndVersionsStay);
         Expect.sentence("Promise 5", "IndexOutOfBoundsException", TellingEdgeTest::undoOfNothing);
         Expect.end();

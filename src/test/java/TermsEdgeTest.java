@@ -13,13 +13,14 @@ public final class TermsEdgeTest {
     public static void main(String[] args) {
         Expect.sentence("What it is, all promises", "An object is used for at most 512 calls",
                 TermsEdgeTest::aFullObjectAnswersItsLastCall);
-        Expect.sentence("What it is, promise 3", "at most 512 calls, nearly all of them refused",
-                TermsEdgeTest::refusedCallsUseUpNothing);
+        Expect.sentence("What it is, promise 3", "An object is used for at most 512 calls",
+                "refused ones use up nothing", TermsEdgeTest::refusedCallsUseUpNothing);
         Expect.sentence("Terms, promise 2", "CONTEXTS are 0, 1, .. , at most 48",
                 TermsEdgeTest::contextsAreAtMost48);
         Expect.sentence("Terms, promise 3", "RELATIONS 0, 1, .. , at most 200",
                 TermsEdgeTest::relationsAreAtMost200);
-        Expect.sentence("Terms, promise 3", "at most 200 in all", TermsEdgeTest::undoneOnesAreAmongThe200);
+        Expect.sentence("Terms, promise 3", "at most 200 in all",
+                TermsEdgeTest::undoneOnesAreAmongThe200);
         Expect.sentence("Terms, promise 3", "kinds 0 ABOVE, 1 CUTS, 2 FILLS (a, b: a is above b)",
                 TermsEdgeTest::threeKindsOrder);
         Expect.sentence("Terms, promise 3", "3 EQUAL (a and b are one)", TermsEdgeTest::equalMakesOne);
@@ -37,7 +38,8 @@ public final class TermsEdgeTest {
                 TermsEdgeTest::noOneIsOverItself);
         Expect.sentence("Terms, promise 4", "numbers of joined ones, each above the next one by a relation",
                 TermsEdgeTest::ringsGoByRelations);
-        Expect.sentence("Terms, promise 4", "it is the SHORTEST one", TermsEdgeTest::ringsAreTheShortest);
+        Expect.sentence("Terms, promise 4", "it is the SHORTEST one",
+                TermsEdgeTest::ringsAreTheShortest);
         Expect.sentence("Terms, promise 4", "the one with the lower number where they differ first",
                 TermsEdgeTest::ringsAreTheLowerWhereTheyDifferFirst);
         Expect.sentence("Terms, promise 7", "and nothing lies between (over one and under the other)",
@@ -45,15 +47,18 @@ public final class TermsEdgeTest {
         Expect.sentence("Terms, promise 8", "in the order of the upper one's number, then the lower one's",
                 TermsEdgeTest::linksAreInOrder);
         Expect.sentence("Terms, promise 12", "GROUPS are 0 .. 11", TermsEdgeTest::groupsAreAtMostTwelve);
-        Expect.sentence("Terms, promise 13", "a context is in one at most", TermsEdgeTest::oneGroupAtMost);
-        Expect.sentence("Terms, promise 13", "over another one if some context of it is over one of the other",
+        Expect.sentence("Terms, promise 13", "a context is in one at most",
+                TermsEdgeTest::oneGroupAtMost);
+        Expect.sentence("Terms, promise 13", "if some context of it is over one of the other",
                 TermsEdgeTest::someContextIsEnough);
-        Expect.sentence("Terms, promise 13", "(by their joined ones)", TermsEdgeTest::groupsGoByJoinedOnes);
+        Expect.sentence("Terms, promise 13", "(by their joined ones)",
+                TermsEdgeTest::groupsGoByJoinedOnes);
         Expect.sentence("Terms, promise 14", "by the numbers of groups, from the one that was asked for on",
                 TermsEdgeTest::ringsOfGroupsBeginWhereAsked);
         Expect.sentence("Terms, promise 16", "which are over which, and which are joined",
                 TermsEdgeTest::versionsHoldOrderAndJoins);
-        Expect.sentence("Terms, promise 16", "versions are 0 .. 7", TermsEdgeTest::versionsAreAtMostEight);
+        Expect.sentence("Terms, promise 16", "versions are 0 .. 7",
+                TermsEdgeTest::versionsAreAtMostEight);
         Expect.end();
     }
 

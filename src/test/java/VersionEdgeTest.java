@@ -10,18 +10,25 @@ public final class VersionEdgeTest {
 
     public static void main(String[] args) {
         Expect.sentence("Promise 16", "A version: its number", VersionEdgeTest::versionsAreNumberedOn);
-        Expect.sentence("Promise 16", "A version: it stays as it was", VersionEdgeTest::versionsStay);
-        Expect.sentence("Promise 16", "IllegalStateException: there are eight", VersionEdgeTest::thereAreEight);
+        Expect.sentence("Promise 16", "what was told so far", "it stays so",
+                VersionEdgeTest::versionsStay);
+        Expect.sentence("Promise 16", "IllegalStateException: there are eight",
+                VersionEdgeTest::thereAreEight);
         Expect.sentence("Promise 17", "The k-th context of which two versions differ",
                 VersionEdgeTest::differencesInOrder);
         Expect.sentence("Promise 17", "whose joined number", VersionEdgeTest::differsByNumber);
-        Expect.sentence("Promise 17", "or the contexts over it or under it", VersionEdgeTest::differsByOrder);
-        Expect.sentence("Promise 17", "(all that are of joined ones there)", VersionEdgeTest::differsByJoinedOnes);
+        Expect.sentence("Promise 17", "or the contexts over it or under it",
+                VersionEdgeTest::differsByOrder);
+        Expect.sentence("Promise 17", "(all that are of joined ones there)",
+                VersionEdgeTest::differsByJoinedOnes);
         Expect.sentence("Promise 17", "a context that came later has none in the earlier one",
                 VersionEdgeTest::laterContextsDiffer);
-        Expect.sentence("Promise 17", "and is no joined one's", VersionEdgeTest::laterContextsAreNoJoinedOnes);
-        Expect.sentence("Promise 17", "NONE if there are not so many", VersionEdgeTest::noneBehindTheLast);
-        Expect.sentence("Promise 17", "IndexOutOfBoundsException: versions", VersionEdgeTest::differsOfNothing);
+        Expect.sentence("Promise 17", "and is no joined one's",
+                VersionEdgeTest::laterContextsAreNoJoinedOnes);
+        Expect.sentence("Promise 17", "NONE if there are not so many",
+                VersionEdgeTest::noneBehindTheLast);
+        Expect.sentence("Promise 17", "IndexOutOfBoundsException: versions",
+                VersionEdgeTest::differsOfNothing);
         Expect.sentence("Promise 17", "or k is below 0", VersionEdgeTest::differsBelow0);
         Expect.sentence("Promise 18", "0 contexts", VersionEdgeTest::countOfContexts);
         Expect.sentence("Promise 18", "1 relations that count", VersionEdgeTest::countOfRelations);
@@ -29,7 +36,8 @@ public final class VersionEdgeTest {
         Expect.sentence("Promise 18", "3 pairs of joined ones of which one is over the other",
                 VersionEdgeTest::countOfPairs);
         Expect.sentence("Promise 18", "4 groups", VersionEdgeTest::countOfGroups);
-        Expect.sentence("Promise 18", "IndexOutOfBoundsException: none of these", VersionEdgeTest::countOfNothing);
+        Expect.sentence("Promise 18", "IndexOutOfBoundsException: none of these",
+                VersionEdgeTest::countOfNothing);
         Expect.end();
     }
 
